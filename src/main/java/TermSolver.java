@@ -95,7 +95,9 @@ public final class TermSolver {
     public int check() {
         if (kept == NOTHING_KEPT) {
             int all = (1 << scopes.assertions) - 1;
-            if (canHold(all)) {
+            gatherRoots();
+            orderInputs();
+            if (search.canHold(roots, all)) {
                 kept = MODEL_KEPT;
                 model = search.inputs();
             } else {
@@ -181,17 +183,10 @@ public final class TermSolver {
         }
     }
 
-    /** Whether the assertions whose bits are set in chosen can hold together. */
-    private boolean canHold(int chosen) {
-        int size = 0;
+    private void gatherRoots() {
         for (int k = 0; k < scopes.assertions; k++) {
-            if (((chosen >> k) & 1) == 1) {
-                roots[size] = circuits.bitOf(scopes.assertionTerm[k], 0);
-                size++;
-            }
+            roots[k] = circuits.bitOf(scopes.assertionTerm[k], 0);
         }
-        orderInputs();
-        return search.canHold(roots, size);
     }
 
     /** The least model is found by deciding the bits in the order that the document compares them. */
@@ -210,7 +205,7 @@ public final class TermSolver {
         int left = all;
         for (int k = 0; k < scopes.assertions; k++) {
             int without = left & ~(1 << k);
-            if (!canHold(without)) {
+            if (!search.canHold(roots, without)) {
                 left = without;
             }
         }
@@ -1041,7 +1036,7 @@ public final class TermSolver {
         }
 
         private int valueOf(int literal) {
-            return state[literal >> 1] ^ literal & 1;
+            return state[literal >> 1] ^ (literal & 1);
         }
     }
 
@@ -1486,16 +1481,19 @@ public final class TermSolver {
             return x;
         }
 
-        boolean canHold(int[] roots, int size) {
+        /** Whether the roots whose bits are set in chosen can be 1 together. */
+        boolean canHold(int[] roots, int chosen) {
             begin();
-            for (int i = 0; i < size && i < roots.length; i++) {
-                int truth = truthOf(roots[i]);
-                if (truth == 0) {
-                    return false;
-                }
-                if (truth == UNKNOWN) {
-                    assign(roots[i], GIVEN);
-                    marked[roots[i] >> 1] = true;
+            for (int k = 0; k < roots.length; k++) {
+                if (((chosen >> k) & 1) == 1) {
+                    int truth = truthOf(roots[k]);
+                    if (truth == 0) {
+                        return false;
+                    }
+                    if (truth == UNKNOWN) {
+                        assign(roots[k], GIVEN);
+                        marked[roots[k] >> 1] = true;
+                    }
                 }
             }
             loadMarked();
@@ -1526,13 +1524,13 @@ public final class TermSolver {
 
         private int truthOf(int literal) {
             int truth = truths[literal >> 1];
-            return truth == UNKNOWN ? UNKNOWN : truth ^ literal & 1;
+            return truth == UNKNOWN ? UNKNOWN : truth ^ (literal & 1);
         }
 
         private void assign(int literal, int reason) {
             int gate = literal >> 1;
             if (trailSize < GATE_ROOM) {
-                truths[gate] = 1 ^ literal & 1;
+                truths[gate] = 1 ^ (literal & 1);
                 levels[gate] = level;
                 reasons[gate] = reason;
                 trail[trailSize] = literal;
