@@ -42,8 +42,8 @@ public final class TermSolver {
     private static final int FIRST_INPUT = 1;
     private static final int FIRST_GATE = FIRST_INPUT + MOST_BITS;
 
-    // 60 terms take at most 16 gates each, and two dividers of 80 gates.
-    private static final int GATE_ROOM = 1200;
+    // 58 terms take at most 16 gates each, and two dividers at most 64 each.
+    private static final int GATE_ROOM = FIRST_GATE + 58 * 16 + 2 * 64;
     private static final int LITERAL_ROOM = 2 * GATE_ROOM;
 
     private static final int NOTHING_KEPT = 0;
@@ -1048,10 +1048,10 @@ public final class TermSolver {
         private final Gates gates;
         private final int[] bits = new int[MOST_BITS * TERM_ROOM];
         private int built;
-        // The two words that are added and their sum: one bit wider than a word, for the division.
-        private final int[] left = new int[MOST_WIDTH + 1];
-        private final int[] right = new int[MOST_WIDTH + 1];
-        private final int[] sum = new int[MOST_WIDTH + 1];
+        // The two words that are added and their sum.
+        private final int[] left = new int[MOST_WIDTH];
+        private final int[] right = new int[MOST_WIDTH];
+        private final int[] sum = new int[MOST_WIDTH];
 
         Circuits(Terms terms, Gates gates) {
             this.terms = terms;
@@ -1254,24 +1254,23 @@ public final class TermSolver {
             }
         }
 
-        /** Fills left with a term's bits and zeros above them; NONE is a word of zeros. */
+        /** Fills left with a term's bits; NONE is a word of zeros. */
         private void loadLeft(int term, int width) {
-            for (int i = 0; i <= MOST_WIDTH; i++) {
-                left[i] = i < width ? bitOf(term, i) : FALSE;
+            for (int i = 0; i < width; i++) {
+                left[i] = bitOf(term, i);
             }
         }
 
         private void loadRight(int term, int width, boolean turned) {
-            for (int i = 0; i <= MOST_WIDTH; i++) {
-                int bit = i < width ? bitOf(term, i) : FALSE;
-                right[i] = turned ? bit ^ 1 : bit;
+            for (int i = 0; i < width; i++) {
+                right[i] = turned ? bitOf(term, i) ^ 1 : bitOf(term, i);
             }
         }
 
         /** Adds left, right and a carry into sum, and gives the last carry. */
         private int add(int width, int first) {
             int carry = first;
-            for (int i = 0; i < width && i <= MOST_WIDTH; i++) {
+            for (int i = 0; i < width; i++) {
                 int differ = gates.xor(left[i], right[i]);
                 sum[i] = gates.xor(differ, carry);
                 carry = gates.mux(differ, carry, left[i]);
@@ -1293,19 +1292,20 @@ public final class TermSolver {
         }
 
         /**
-         * Divides as by hand, with the rest in left. A divisor 0 always goes into the rest: then the
+         * Divides as by hand, with the rest in left: it is never more than the dividend's bits so
+         * far, so it needs no more bits than they. A divisor 0 always goes into the rest: then the
          * quotient is all ones and the rest is the dividend, as the document asks.
          */
         private void divide(Word op, int a, int b, int width) {
             loadLeft(NONE, width);
             loadRight(b, width, true);
             for (int k = width - 1; k >= 0; k--) {
-                for (int i = width; i > 0; i--) {
+                for (int i = width - 1; i > 0; i--) {
                     left[i] = left[i - 1];
                 }
                 left[0] = bitOf(a, k);
-                int goesIn = add(width + 1, TRUE);
-                for (int i = 0; i <= width; i++) {
+                int goesIn = add(width, TRUE);
+                for (int i = 0; i < width; i++) {
                     left[i] = gates.mux(goesIn, sum[i], left[i]);
                 }
                 if (op == Word.BV_UDIV) {

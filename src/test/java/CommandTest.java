@@ -9,6 +9,8 @@ public final class CommandTest {
         refusesTooManyAssertions(checks);
         refusesTooManyScopes(checks);
         refusesTooManyTerms(checks);
+        aConstantIsTheLastTerm(checks);
+        namesOfLetsEnd(checks);
         refusesTooManyHeavyTerms(checks);
         faultsComeBeforeLimits(checks);
         aRefusedCommandChangesNothing(checks);
@@ -149,6 +151,31 @@ public final class CommandTest {
         checks.dueCommand(solver, "(assert (or a a))", -1000);
         checks.due("check() with 60 terms", solver.check(), 0);
         checks.due("terms() at the end", solver.terms(), 60);
+    }
+
+    private static void aConstantIsTheLastTerm(Checks checks) {
+        TermSolver solver = with58Terms(checks);
+        checks.dueCommand(solver, "(declare-const a Bool)", 1);
+        checks.dueCommand(solver, "(declare-const b Bool)", 2);
+        checks.due("terms()", solver.terms(), 60);
+        checks.dueCommand(solver, "(declare-const c Bool)", -1001);
+        checks.due("constants", solver.count(0), 2);
+        checks.dueCommand(solver, "(assert b)", 4);
+        checks.dueCommand(solver, "(assert c)", -9);
+        checks.due("holds(3, 2)", solver.holds(3, 2), 1);
+    }
+
+    private static void namesOfLetsEnd(Checks checks) {
+        TermSolver solver = checks.after("(declare-const p Bool)");
+        checks.dueCommand(solver, "(assert (let ((x p)) (let ((y x)) (and x y))))", 1);
+        checks.dueCommand(solver, "(assert x)", -9);
+        checks.dueCommand(solver, "(assert (let ((x p)) z))", -22);
+        checks.dueCommand(solver, "(assert (or x p))", -13);
+        checks.dueCommand(solver, "(assert y)", -9);
+        checks.dueCommand(solver, "(declare-const x Bool)", 2);
+        checks.dueCommand(solver, "(assert (let ((p x)) p))", 2);
+        checks.due("holds(1, 2)", solver.holds(1, 2), 1);
+        checks.due("holds(1, 1)", solver.holds(1, 1), 0);
     }
 
     private static void refusesTooManyHeavyTerms(Checks checks) {
