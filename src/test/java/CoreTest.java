@@ -1,3 +1,5 @@
+import java.util.Arrays;
+
 /** Promise 6: core tells which assertions are left when each that can be spared is left out in order. */
 public final class CoreTest {
     public static void main(String[] args) {
@@ -7,6 +9,7 @@ public final class CoreTest {
         threeThatCannotHoldTogether(checks);
         assertionsOfScopes(checks);
         twelveAssertions(checks);
+        fourOfAFew(checks);
         checks.end("CoreTest");
     }
 
@@ -77,5 +80,39 @@ public final class CoreTest {
         for (int k = 0; k < want.length; k++) {
             checks.due("core(" + k + ")", solver.core(k), want[k]);
         }
+    }
+
+    /** The core by the document's words: sets of values of two constants of truth are bits of an int. */
+    private static void fourOfAFew(Checks checks) {
+        String[] terms = {"true", "false", "p", "q", "(not p)", "(not q)", "(and p q)", "(or p q)", "(xor p q)", "(= p q)"};
+        int[] holding = {0xf, 0, 0xa, 0xc, 0x5, 0x3, 0x8, 0xe, 0x6, 0x9};
+        for (int row = 0; row < 10 * 10 * 10 * 10; row++) {
+            int[] chosen = {row % 10, row / 10 % 10, row / 100 % 10, row / 1000};
+            int all = 0xf;
+            for (int k : chosen) {
+                all &= holding[k];
+            }
+            if (all != 0 || row % 3 != 0) {
+                continue;
+            }
+            TermSolver solver = checks.after("(declare-const p Bool)", "(declare-const q Bool)");
+            for (int k : chosen) {
+                Checks.command(solver, "(assert " + terms[k] + ")");
+            }
+            dueCore(checks, solver, coreOf(chosen, holding));
+        }
+    }
+
+    private static boolean[] coreOf(int[] chosen, int[] holding) {
+        boolean[] left = new boolean[chosen.length];
+        Arrays.fill(left, true);
+        for (int k = 0; k < chosen.length; k++) {
+            int others = 0xf;
+            for (int other = 0; other < chosen.length; other++) {
+                others &= other == k || !left[other] ? 0xf : holding[chosen[other]];
+            }
+            left[k] = others != 0;
+        }
+        return left;
     }
 }

@@ -174,5 +174,16 @@ public final class HoldsTest {
         sameAsReference(checks, "(declare-const m (Array (_ BitVec 1) (_ BitVec 4)))",
                 "(assert (= m (store m #b1 (select m #b0))))", "(assert (bvslt (select m #b0) (select m #b1)))",
                 "(assert (= (store m #b0 #b1010) (store m #b1 #b0101)))");
+        for (int w = 1; w <= 4; w++) {
+            String m = "(declare-const m (Array (_ BitVec 1) (_ BitVec " + w + ")))";
+            String e = "#b1011".substring(0, 2 + w);
+            sameWord(checks, "(select m #b0)", w, m);
+            sameWord(checks, "(select m #b1)", w, m);
+            sameWord(checks, "(select (store m #b0 " + e + ") #b0)", w, m);
+            sameWord(checks, "(select (store m #b0 " + e + ") #b1)", w, m);
+            sameWord(checks, "(select (store m #b1 " + e + ") #b0)", w, m);
+            sameWord(checks, "(select (store m #b1 " + e + ") #b1)", w, m);
+            sameAsReference(checks, m, "(assert (= m (store m #b0 (select m #b1))))", "(assert (distinct m m))");
+        }
     }
 }

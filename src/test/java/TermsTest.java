@@ -8,6 +8,8 @@ public final class TermsTest {
         letsAreNoTerms(checks);
         constantsAreTermsOfTheirOwn(checks);
         termsStayForEver(checks);
+        eachOperatorMakesATermOfItsOwn(checks);
+        aConstantOfAnotherTimeIsAnotherTerm(checks);
         checks.end("TermsTest");
     }
 
@@ -99,5 +101,66 @@ public final class TermsTest {
         checks.due("terms() after a fault", solver.terms(), 4);
         checks.dueCommand(solver, "(pop)", -1000);
         checks.due("terms() after a refusal", solver.terms(), 4);
+    }
+
+    private static void eachOperatorMakesATermOfItsOwn(Checks checks) {
+        String[] truths = {"(not p)", "(and p p)", "(or p p)", "(xor p p)", "(=> p p)", "(= p p)", "(distinct p p)",
+            "(ite p p p)"};
+        TermSolver solver = checks.after("(declare-const p Bool)");
+        for (int k = 0; k < truths.length; k++) {
+            dueTerms(checks, solver, "(assert " + truths[k] + ")", 2 + k);
+        }
+        String[] orders = {"=", "distinct", "bvult", "bvule", "bvslt", "bvsle"};
+        solver = checks.after("(declare-const a (_ BitVec 2))");
+        for (int k = 0; k < orders.length; k++) {
+            dueTerms(checks, solver, "(assert (" + orders[k] + " a a))", 2 + k);
+        }
+        String[] words = {"(bvnot a)", "(bvneg a)", "(bvand a a)", "(bvor a a)", "(bvxor a a)", "(bvadd a a)", "(bvsub a a)",
+            "(bvshl a a)", "(bvlshr a a)", "(bvashr a a)", "((_ extract 1 0) a)"};
+        solver = checks.after("(declare-const a (_ BitVec 2))");
+        for (int k = 0; k < words.length; k++) {
+            dueTerms(checks, solver, "(assert (= a " + words[k] + "))", 3 + 2 * k);
+        }
+        String[] pairs = {"(= (bvmul a a) (bvudiv a a))", "(= (bvudiv a a) (bvurem a a))", "(= (bvurem a a) (bvmul a a))",
+            "(= ((_ zero_extend 0) a) ((_ sign_extend 0) a))", "(= ((_ extract 1 1) a) ((_ extract 0 0) a))",
+            "(= (concat a a) ((_ zero_extend 2) a))", "(= ((_ sign_extend 2) a) ((_ zero_extend 2) a))"};
+        for (String pair : pairs) {
+            dueTerms(checks, checks.after("(declare-const a (_ BitVec 2))"), "(assert " + pair + ")", 4);
+        }
+        solver = checks.after("(declare-const m (Array (_ BitVec 1) (_ BitVec 1)))");
+        dueTerms(checks, solver, "(assert (= (select m #b0) (select m #b0)))", 4);
+        dueTerms(checks, solver, "(assert (= (select m #b1) (select m #b0)))", 7);
+        dueTerms(checks, solver, "(assert (= m (store m #b1 #b0)))", 9);
+        dueTerms(checks, solver, "(assert (= m (store m #b0 #b1)))", 11);
+        dueTerms(checks, solver, "(assert (= m (store m #b1 #b0)))", 11);
+        allWords(checks);
+    }
+
+    /** Each of the 30 words is a term of its own. */
+    private static void allWords(Checks checks) {
+        TermSolver solver = checks.after("(push)");
+        for (int k = 2; k < 32; k++) {
+            String word = "#b" + Integer.toBinaryString(k).substring(1);
+            dueTerms(checks, solver, "(assert (= " + word + " " + word + "))", 2 * (k - 1));
+            if (solver.count(1) == 12) {
+                checks.dueCommand(solver, "(pop)", 0);
+                checks.dueCommand(solver, "(push)", 1);
+            }
+        }
+        checks.due("terms() of 30 words and as many equations", solver.terms(), 60);
+    }
+
+    private static void aConstantOfAnotherTimeIsAnotherTerm(Checks checks) {
+        TermSolver solver = checks.after("(declare-const b (_ BitVec 2))");
+        for (int k = 0; k < 6; k++) {
+            checks.dueCommand(solver, "(push)", 1);
+            dueTerms(checks, solver, "(declare-const a (_ BitVec 2))", 2 + 2 * k);
+            dueTerms(checks, solver, "(assert (= a b))", 3 + 2 * k);
+            dueTerms(checks, solver, "(assert (= a b))", 3 + 2 * k);
+            dueTerms(checks, solver, "(pop)", 3 + 2 * k);
+        }
+        dueTerms(checks, solver, "(declare-const a Bool)", 14);
+        dueTerms(checks, solver, "(assert (= a a))", 15);
+        checks.due("holds(0, 4)", solver.holds(0, 4), 1);
     }
 }

@@ -8,6 +8,8 @@ public final class TypeTest {
         refusesMoreThan120(checks);
         aRefusedCallChangesNothing(checks);
         typingKeepsWhatIsKept(checks);
+        eachLengthNearTheLimit(checks);
+        theHighestByteIsTheFirst(checks);
         checks.end("TypeTest");
     }
 
@@ -78,5 +80,44 @@ public final class TypeTest {
         checks.due("value(0) with something typed", solver.value(0), 2);
         checks.due("check() with something typed", solver.check(), 1);
         checks.due("command() of what was typed before", solver.command(), -1000);
+    }
+
+    /** A type that is refused for being too long leaves room for a shorter one. */
+    private static void eachLengthNearTheLimit(Checks checks) {
+        for (int size = 110; size <= 120; size++) {
+            for (int n = 1; n <= 4; n++) {
+                TermSolver solver = new TermSolver();
+                Checks.type(solver, " ".repeat(size));
+                boolean fits = size + n <= 120;
+                checks.due("type of " + n + " behind " + size, solver.type(0x20202020, n), fits);
+                for (int more = fits ? size + n : size; more < 120; more++) {
+                    checks.due("type of one behind " + more, solver.type(0x20, 1), true);
+                }
+                checks.due("type of one behind 120", solver.type(0x20, 1), false);
+                checks.due("command()", solver.command(), -121);
+                checks.due("type when nothing is typed", solver.type(0x28707573, 4), true);
+                checks.due("type when four are typed", solver.type(0x6829, 2), true);
+                checks.due("command()", solver.command(), 1);
+            }
+        }
+        String longest = "(assert" + " ".repeat(108) + "true)";
+        checks.dueCommand(new TermSolver(), longest, 1);
+        checks.dueCommand(new TermSolver(), longest + ")", 1); // the last bracket was refused
+    }
+
+    private static void theHighestByteIsTheFirst(Checks checks) {
+        String text = "(push)";
+        for (int n = 1; n <= 4; n++) {
+            TermSolver solver = new TermSolver();
+            for (int from = 0; from < text.length(); from += n) {
+                int size = Math.min(n, text.length() - from);
+                int word = 0xffffffff;
+                for (int i = from; i < from + size; i++) {
+                    word = word << 8 | text.charAt(i);
+                }
+                checks.due("type under bytes 255", solver.type(word, size), true);
+            }
+            checks.due("command() typed by " + n, solver.command(), 1);
+        }
     }
 }

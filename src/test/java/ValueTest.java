@@ -6,6 +6,9 @@ public final class ValueTest {
         theLeastBitsInTheOrderOfDeclaration(checks);
         valuesOfArrays(checks);
         constantsOfScopes(checks);
+        eachValueOfEachSort(checks);
+        theLesserOfTwoRows(checks);
+        nothingAsserted(checks);
         checks.end("ValueTest");
     }
 
@@ -80,6 +83,62 @@ public final class ValueTest {
         checks.dueCommand(solver, "(declare-const b Bool)", -1000);
         checks.dueCommand(solver, "(assert (= (select c #b1) #b111))", 1);
         dueValues(checks, solver, 0, 56);
+    }
+
+    private static String word(int width, int value) {
+        return "#b" + Integer.toBinaryString(1 << width | value).substring(1);
+    }
+
+    private static void eachValueOfEachSort(Checks checks) {
+        dueValues(checks, checks.after("(declare-const p Bool)", "(assert (not p))"), 0);
+        dueValues(checks, checks.after("(declare-const p Bool)", "(assert p)"), 1);
+        for (int w = 1; w <= 4; w++) {
+            String a = "(declare-const a (_ BitVec " + w + "))";
+            String m = "(declare-const m (Array (_ BitVec 1) (_ BitVec " + w + ")))";
+            for (int low = 0; low < 1 << w; low++) {
+                dueValues(checks, checks.after(a, "(assert (= a " + word(w, low) + "))"), low);
+                for (int high = 0; high < 1 << w; high++) {
+                    TermSolver solver = checks.after(m, "(assert (= (select m #b0) " + word(w, low) + "))",
+                            "(assert (= (select m #b1) " + word(w, high) + "))");
+                    dueValues(checks, solver, low + (high << w));
+                }
+            }
+        }
+    }
+
+    /** Of two rows of bits that hold the one is kept that has a 0 where they differ first. */
+    private static void theLesserOfTwoRows(Checks checks) {
+        String[] sorts = {"Bool", "(_ BitVec 2)", "(Array (_ BitVec 1) (_ BitVec 1))"};
+        for (int first = 0; first < 16; first++) {
+            for (int second = 0; second < 16; second++) {
+                TermSolver solver = checks.after("(declare-const a (_ BitVec 2))", "(declare-const b (_ BitVec 2))",
+                        "(assert (or (= (concat a b) " + word(4, first) + ") (= (concat a b) " + word(4, second) + ")))");
+                int least = Math.min(first, second);
+                dueValues(checks, solver, least >> 2, least & 3);
+                solver = checks.after("(declare-const b (_ BitVec 1))", "(declare-const a (_ BitVec 3))",
+                        "(assert (or (= (concat a b) " + word(4, first) + ") (= (concat a b) " + word(4, second) + ")))");
+                least = (first & 1) == (second & 1) ? Math.min(first, second) : (first & 1) == 0 ? first : second;
+                dueValues(checks, solver, least & 1, least >> 1);
+                solver = checks.after("(declare-const m (Array (_ BitVec 1) (_ BitVec 2)))",
+                        "(assert (let ((x (concat (select m #b1) (select m #b0)))) (or (= x " + word(4, first) + ") (= x "
+                        + word(4, second) + "))))");
+                dueValues(checks, solver, Math.min(first, second));
+            }
+        }
+        for (String sort : sorts) {
+            TermSolver solver = checks.after("(declare-const a " + sort + ")", "(declare-const b " + sort + ")",
+                    "(assert (distinct a b))");
+            dueValues(checks, solver, 0, 1);
+        }
+    }
+
+    private static void nothingAsserted(Checks checks) {
+        TermSolver solver = checks.after("(declare-const p Bool)", "(declare-const a (_ BitVec 3))",
+                "(declare-const m (Array (_ BitVec 1) (_ BitVec 2)))");
+        dueValues(checks, solver, 0, 0, 0, -1);
+        solver = checks.after("(declare-const a (_ BitVec 4))", "(declare-const b (_ BitVec 4))",
+                "(assert (= (bvand a b) #b1111))");
+        dueValues(checks, solver, 15, 15, -1);
     }
 
     private static void dueValues(Checks checks, TermSolver solver, int... want) {
