@@ -1350,10 +1350,11 @@ public final class TermSolver {
         private final int[] firstLink = new int[LITERAL_ROOM];
         private final int[] nextLink = new int[LINK_ROOM];
 
-        void clear() {
+        /** Forgets all clauses; none that comes then has a gate from this number on. */
+        void clear(int gates) {
             size = 0;
             from[1] = 0;
-            for (int literal = 0; literal < LITERAL_ROOM; literal++) {
+            for (int literal = 0; literal < 2 * gates && literal < LITERAL_ROOM; literal++) {
                 firstLink[literal] = NONE;
             }
         }
@@ -1511,8 +1512,8 @@ public final class TermSolver {
         }
 
         private void begin() {
-            clauses.clear();
-            for (int gate = 0; gate < GATE_ROOM; gate++) {
+            clauses.clear(gates.size);
+            for (int gate = 0; gate < gates.size && gate < GATE_ROOM; gate++) {
                 truths[gate] = UNKNOWN;
                 marked[gate] = false;
             }

@@ -9,6 +9,9 @@ public final class CharactersTest {
         "bvxor", "bvadd", "bvsub", "bvmul", "bvudiv", "bvurem", "bvshl", "bvlshr", "bvashr", "bvult", "bvule", "bvslt",
         "bvsle", "concat", "extract", "zero_extend", "sign_extend", "select", "store"};
 
+    private static final String OPERATORS = " not and or xor => = distinct ite bvnot bvneg bvand bvor bvxor bvadd bvsub bvmul bvudiv"
+            + " bvurem bvshl bvlshr bvashr bvult bvule bvslt bvsle concat select store ";
+
     public static void main(String[] args) {
         Checks checks = new Checks();
         eachCharacterBehindASymbol(checks);
@@ -108,6 +111,11 @@ public final class CharactersTest {
             checks.dueCommand(withP(checks), "(assert (let ((" + word + " p)) p))", -1 - 15);
             if (!word.equals("true") && !word.equals("false")) {
                 checks.dueCommand(withP(checks), "(assert " + word + ")", -1 - 8);
+            }
+            if (word.equals("let")) {
+                checks.dueCommand(withP(checks), "(assert (let p))", -1 - 13);
+            } else if (!OPERATORS.contains(" " + word + " ")) {
+                checks.dueCommand(withP(checks), "(assert (" + word + " p))", -1 - 9);
             }
         }
         // Words that only begin, end or name parts in the document are names as all others.

@@ -82,6 +82,8 @@ public final class FaultTest {
         "(= ((_ sign_extend 4) ^v) w)", "(= ((_ sign_extend 99) ^v) w)", "(= ((_ sign_extend 1) ^m) w)",
         "(= ((_ sign_extend ^x) v) w)", "(= ((_ sign_extend 1) v ^v) w)", "^((_ zero_extend 1) v)",
         "(= ((_ sign_extend ^) v) w)", "(= ((_ sign_extend ^00) v) w)",
+        "(= ((_ extract 1 0 ^p) w) v)", "(= ((_ extract 1 0 ^w v)", "(= ((_ zero_extend 1 ^v) v) w)", "(= ((_ sign_extend 1 ^p p)",
+        "(and ((_ zero_extend 1 ^p p)",
     };
     private static final String[] LETS = {
         "(let^)", "(let ^x p)", "(let (^x p) p)", "(let (^) p)", "(let ((^) p)", "(let ((^let p)) p)",

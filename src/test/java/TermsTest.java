@@ -49,6 +49,24 @@ public final class TermsTest {
         dueTerms(checks, solver, "(assert (= ((_ zero_extend 0) #b01) #b01))", 18);
         dueTerms(checks, solver, "(assert (= ((_ sign_extend 0) #b01) #b01))", 20);
         dueTerms(checks, solver, "(assert (= ((_ zero_extend 1) #b01) #b000))", 22);
+        eachPartOfAWord(checks);
+    }
+
+    /** Each pair of numbers makes another term, also when it comes again after all others. */
+    private static void eachPartOfAWord(Checks checks) {
+        TermSolver solver = checks.after("(declare-const a (_ BitVec 4))", "(push)");
+        for (int round = 0; round < 2; round++) {
+            int want = 1;
+            for (int i = 0; i < 4; i++) {
+                for (int j = 0; j <= i; j++) {
+                    want += 2;
+                    String part = "((_ extract " + i + " " + j + ") a)";
+                    dueTerms(checks, solver, "(assert (= " + part + " " + part + "))", round == 0 ? want : 21);
+                }
+            }
+            checks.dueCommand(solver, "(pop)", 0);
+            checks.dueCommand(solver, "(push)", 1);
+        }
     }
 
     private static void orderOfParts(Checks checks) {

@@ -22,6 +22,9 @@ public final class UnchangedTest {
     private static final String[] TOO_MANY = {"(assert (= (bvurem a b) a))", "(assert (let ((x (bvmul b a))) p))",
         "(assert (and (= (bvneg a) (bvnot b)) (= (bvudiv b a) #b110)))"};
 
+    /** Where answers has count(1). */
+    private static final int ASSERTIONS = 1 + 2 * 5;
+
     private final Checks checks = new Checks();
 
     public static void main(String[] args) {
@@ -77,6 +80,7 @@ public final class UnchangedTest {
             int answer = Checks.command(solver, text);
             checks.due("faulty: " + text, answer < 0 && answer > -1000, true);
             dueSame(text, solver, before, kept);
+            checks.dueCommand(solver, "(assert (= p p))", before.get(ASSERTIONS) + 1);
         }
     }
 
@@ -95,6 +99,8 @@ public final class UnchangedTest {
         checks.dueCommand(solver, text, want);
         checks.dueCommand(solver, text, want);
         dueSame(text, solver, before, kept);
+        checks.dueCommand(solver, "(pop)", 3);
+        checks.dueCommand(solver, "(assert (= a a))", solver.count(1) + 1);
     }
 
     private void afterTypes(int kept) {

@@ -9,6 +9,8 @@ public final class ValueTest {
         eachValueOfEachSort(checks);
         theLesserOfTwoRows(checks);
         nothingAsserted(checks);
+        otherConstantsAfterAPop(checks);
+        eightConstants(checks);
         checks.end("ValueTest");
     }
 
@@ -139,6 +141,39 @@ public final class ValueTest {
         solver = checks.after("(declare-const a (_ BitVec 4))", "(declare-const b (_ BitVec 4))",
                 "(assert (= (bvand a b) #b1111))");
         dueValues(checks, solver, 15, 15, -1);
+    }
+
+    /** Nothing of the constants that were there before counts for those that are there now. */
+    private static void otherConstantsAfterAPop(Checks checks) {
+        TermSolver solver = checks.after("(push)", "(declare-const a (_ BitVec 4))", "(assert (distinct a #b0000))");
+        dueValues(checks, solver, 1, -1);
+        checks.dueCommand(solver, "(pop)", 0);
+        checks.dueCommand(solver, "(push)", 1);
+        checks.dueCommand(solver, "(declare-const p Bool)", 1);
+        checks.dueCommand(solver, "(declare-const q Bool)", 2);
+        checks.dueCommand(solver, "(assert (or p q))", 1);
+        dueValues(checks, solver, 0, 1, -1);
+        checks.dueCommand(solver, "(declare-const r (_ BitVec 2))", 3);
+        checks.dueCommand(solver, "(assert (distinct r (ite q #b01 #b00)))", 2);
+        dueValues(checks, solver, 0, 1, 0, -1);
+        checks.dueCommand(solver, "(pop)", 0);
+        dueValues(checks, solver, -1);
+        checks.dueCommand(solver, "(declare-const m (Array (_ BitVec 1) (_ BitVec 2)))", 1);
+        checks.dueCommand(solver, "(declare-const b (_ BitVec 3))", 2);
+        checks.dueCommand(solver, "(assert (= ((_ zero_extend 1) (select m #b1)) (bvnot b)))", 1);
+        dueValues(checks, solver, 0, 7, -1);
+    }
+
+    private static void eightConstants(Checks checks) {
+        TermSolver solver = new TermSolver();
+        for (int k = 0; k < 8; k++) {
+            checks.dueCommand(solver, "(declare-const " + (char) ('a' + k) + " Bool)", k + 1);
+        }
+        dueValues(checks, solver, 0, 0, 0, 0, 0, 0, 0, 0, -1);
+        checks.dueCommand(solver, "(assert (and (xor a b) (and (= b c) (and (distinct g h) (or d e)))))", 1);
+        dueValues(checks, solver, 0, 1, 1, 0, 1, 0, 0, 1, -1);
+        checks.dueCommand(solver, "(assert (and (not h) (=> e f)))", 2);
+        dueValues(checks, solver, 0, 1, 1, 0, 1, 1, 1, 0, -1);
     }
 
     private static void dueValues(Checks checks, TermSolver solver, int... want) {
