@@ -401,6 +401,7 @@ public final class TermSolver {
             return hasToken(token) ? from[token] : length;
         }
 
+        // The guard is written out here, as in sortOf, since calls go at most eight deep.
         boolean isBracket(int token, char bracket) {
             return token >= 0 && token < tokens && from[token] < length && typed[from[token]] == bracket;
         }
